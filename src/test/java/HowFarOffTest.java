@@ -73,6 +73,7 @@ public final class HowFarOffTest {
         evenIs(x, 1, 10, 20, 11, 9, 0);
         evenIs(x, 0, 10, 11, 11, 4, 1);
         evenIs(x, 0, 22, 23, 22, 2, 1);
+        evenIs(x, 1, 19, 20, 20, 5, 1);
         evenIs(x, 2, 16, 16, 16, 1, 8);
         evenIs(x, 2, 7, 7, 7, 3, 3);
         evenIs(x, 2, 5, 7, 6, 4, 0);

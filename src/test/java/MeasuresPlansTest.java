@@ -141,6 +141,14 @@ public final class MeasuresPlansTest {
         faultOf(ten + ";1f=0", 50);
         faultOf(ten + ";x", 50);
         faultOf(ten + "x", 49);
+        String eight = "99f+11=8;".repeat(8);
+        faultOf(eight + "99f+11=8", -1);
+        faultOf(eight + "9f=0;9f=", 80);
+        faultOf(eight + "9f=0;9f0", 79);
+        ThreeMasters again = Due.plan("9f=0");
+        again.wipe();
+        again.type('9');
+        Due.is("fault() of '9' where more was wiped", again.fault(), 1);
         Due.is("ten FLOORS", Due.plan(ten).count(0), 10);
     }
 
@@ -197,6 +205,7 @@ public final class MeasuresPlansTest {
                 Due.is("cut(" + lengths[i] + ", 0, " + habit + ")", x.cut(lengths[i], 0, habit), want[i][habit]);
             }
         }
+        Due.is("one over, cut up", x.cut(46, 1, 1), 90);
         Due.is("half to the lesser", x.cut(45 * 3, 1, 2), 135);
         x.measure(1, 0, 6);
         Due.is("3 by 6, nearest", x.cut(3, 1, 2), 0);

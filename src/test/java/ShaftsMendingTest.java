@@ -47,6 +47,7 @@ public final class ShaftsMendingTest {
         Due.is("runs(96, 0, 4)", x.runs(96, 0, 4), 1);
         Due.is("runs(97, 0, 4)", x.runs(97, 0, 4), 0);
         Due.is("runs(200, 4, 4)", x.runs(200, 4, 4), 1);
+        Due.is("runs(1, 0, 4)", x.runs(1, 0, 4), 1);
         Due.is("runs(999, 4, 4)", x.runs(999, 4, 4), 0);
         x.set(1, 999);
         Due.is("runs(999, 4, 4), ROOM 999", x.runs(999, 4, 4), 1);
@@ -66,17 +67,19 @@ public final class ShaftsMendingTest {
         Due.is("lifts(), nothing left", x.lifts(), 0);
         x.set(1, 1);
         Due.is("lifts(), less than nothing", x.lifts(), 0);
+        Due.is("lifts(), SILL 0 leans most", leaning(FOUR, -99).lifts(), 101);
         Due.is("lifts(), no FLOORS", leaning("", 50, -50).lifts(), 200);
     }
 
     private static void longest() {
         ThreeMasters x = leaning(FOUR, 10, 0, 5, 5, 1, 1);
-        int[][] want = {{190, 5, 0}, {191, 4, 1}, {195, 4, 1}, {196, 3, 2}, {197, 2, 2}, {200, 2, 2}, {201, 0, -1}, {999, 0, -1}};
+        int[][] want = {{1, 5, 0}, {190, 5, 0}, {191, 4, 1}, {195, 4, 1}, {196, 3, 2}, {197, 2, 2}, {200, 2, 2}, {201, 0, -1}, {999, 0, -1}};
         for (int[] w : want) {
             Due.is("longest(" + w[0] + ", 0)", x.longest(w[0], 0), w[1]);
             Due.is("longest(" + w[0] + ", 1)", x.longest(w[0], 1), w[2]);
         }
         ThreeMasters pairs = leaning(FOUR, 0, 0, 50, 50, 0);
+        Due.is("longest(200, 0), no FLOORS", leaning("", 50, -50).longest(200, 0), 1);
         Due.is("longest(), of like ones the least", pairs.longest(200, 1), 0);
         int[][] bad = {{0, 0}, {1000, 0}, {1, -1}, {1, 2}};
         for (int[] b : bad) {
@@ -118,6 +121,8 @@ public final class ShaftsMendingTest {
         mendedIs(x, 15, 50 + 40 + 25 + 25, -10, 20, -5, -5);
         mendedIs(x, 9, 50 + 20, -10, 0, 0, 10);
         mendedIs(x, 10, 20 + 50, 0, 10, -10, 0);
+        mendedIs(shimmed(FOUR, -1), 2, 2, 0, 1, 0, 0);
+        mendedIs(shimmed(FOUR, 1), 2, 5, -1, 0, 0, 0);
         x.set(2, 9);
         x.set(3, 0);
         mendedIs(x, 15, 180, -10, 20, -5, -5);
@@ -156,6 +161,16 @@ public final class ShaftsMendingTest {
         x.shim(0, -11);
         mendedIs(x, 1, 198, 99, 0, 0);
         mendedIs(x, 8, 0, 0, 0, 0);
+        // FLOOR 1 comes out 101 below what was meant, and 1f=4 by ells of 112 is 100 over: too much for one FLOOR.
+        x.shim(1, -69);
+        mendedIs(x, 3, NONE, ANY_NOT, ANY_NOT, ANY_NOT);
+        mendedIs(x, 5, 198 + 2 * 133, 99, 34, 99);
+        ThreeMasters over = Due.plan("1f=4;1f=0");
+        over.measure(1, 0, 112);
+        mendedIs(over, 1, NONE, ANY_NOT);
+        mendedIs(over, 2, 500, -99, -1);
+        over.measure(1, 0, 111);
+        mendedIs(over, 1, 495, -99, 0);
     }
 
     private static void mendedRefuses() {

@@ -25,6 +25,7 @@ public final class SheetsTest {
         digest(x);
         x.found(0, 1);
         digest(x);
+        digestAtTheEdges();
         Due.end();
     }
 
@@ -252,6 +253,25 @@ public final class SheetsTest {
         }
         Due.is("digest()", x.digest(), h);
         Due.is("digest() again", x.digest(), h);
+    }
+
+    /** Towers for which a number beside the one that the document gives to a call would answer otherwise. */
+    private static void digestAtTheEdges() {
+        ThreeMasters x = Due.plan("14f=0;15f=0;20f=0;21f=0");
+        x.measure(0, 0, 1);
+        x.shim(0, 5);
+        x.shim(1, -5);
+        digest(x);
+        x.shim(0, 0);
+        x.shim(1, 0);
+        x.lean(1, 50);
+        digest(x);
+        x.lean(1, 51);
+        digest(x);
+        for (int k = 0; k < 3; k++) {
+            x.measure(k, 0, 99 + k);
+        }
+        digest(x);
     }
 
     private static void tell(StringBuilder told, long... numbers) {
