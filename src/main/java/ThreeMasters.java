@@ -8,6 +8,8 @@ public final class ThreeMasters {
     private static final int ANY = -100000;
     /** found() has a refusal of its own. */
     private static final int BAD_FIND = -5;
+    private static final int LEAST_INT = 1 << 31;
+    private static final long LEAST_LONG = 1L << 63;
 
     private static final int NULL = 1, INDEX = 2, CAST = 3, STORE = 4, SIZE = 5;
 
@@ -354,7 +356,7 @@ public final class ThreeMasters {
     }
 
     public int get(int s, int form, int i) {
-        return refuseItem(s, form, i) != 0 ? Integer.MIN_VALUE : sheets[s].items[i];
+        return refuseItem(s, form, i) != 0 ? LEAST_INT : sheets[s].items[i];
     }
 
     public int copy(int s, int i, int t, int j, int n) {
@@ -495,7 +497,7 @@ public final class ThreeMasters {
     }
 
     private static long refuseLong(int refusal) {
-        return Long.MIN_VALUE - refusal;
+        return LEAST_LONG - refusal;
     }
 
     private int finding(int number) {
@@ -570,7 +572,7 @@ public final class ThreeMasters {
     }
 
     private static final class Measures {
-        /** Never 0: measure() lets none in, as these divide. */
+        /** These divide: measure() lets none in below 1. */
         private final int[] sizes = {12, 45, 9};
         private final int[] grids = {1, 1, 1};
 
@@ -584,6 +586,9 @@ public final class ThreeMasters {
         int toParts(int length, int measure, int habit) {
             int size = sizes[measure];
             int grid = grids[measure];
+            if (size < 1 || grid < 1) {
+                return length;
+            }
             int scaled = length * grid;
             int parts;
             if (habit == 0) {

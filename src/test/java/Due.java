@@ -1,9 +1,35 @@
+import java.io.IOException;
+import java.io.UncheckedIOException;
+import java.nio.file.Files;
+import java.nio.file.Path;
+
 /** What the tests share: answers that are due, told and counted. */
 final class Due {
+    static final Path DOCUMENT = Path.of("../shared/DOC.md");
+    private static final String WORDS = document();
+
     private static int passed = 0;
     private static int failed = 0;
 
     private Due() {
+    }
+
+    /** The document with all white space made one sign, so that a quote may go over its lines. */
+    static String document() {
+        try {
+            return inOneLine(Files.readString(DOCUMENT));
+        } catch (IOException cause) {
+            throw new UncheckedIOException(cause);
+        }
+    }
+
+    static String inOneLine(String text) {
+        return text.replaceAll("\\s+", " ");
+    }
+
+    /** The words that a test holds the program to: they must stand in the document. SentencesTest looks that none is left. */
+    static void says(String words) {
+        holds("the document says: " + words, WORDS.contains(words));
     }
 
     static void is(String call, long got, long want) {

@@ -16,12 +16,12 @@ import java.util.regex.Pattern;
 /** What can be seen of LANGUAGE.md's rules and of the document's face. */
 public final class RulesTest {
     private static final Path SOURCE = Path.of("src/main/java/ThreeMasters.java");
-    private static final Path DOCUMENT = Path.of("../shared/DOC.md");
 
     public static void main(String[] args) throws IOException {
         String source = Files.readString(SOURCE);
         String code = source.replaceAll("(?s)/\\*.*?\\*/", "").replaceAll("//[^\n]*", "");
         face();
+        headings(source);
         namesOfMethods();
         nestedClasses();
         words(code);
@@ -39,9 +39,9 @@ public final class RulesTest {
         return m.getReturnType().getSimpleName() + " " + m.getName() + types;
     }
 
-    private static Set<String> faceOfTheDocument() throws IOException {
+    private static Set<String> faceOfTheDocument() {
         Set<String> face = new TreeSet<>();
-        Matcher m = Pattern.compile("public (int|long) (\\w+)\\(([^)]*)\\);").matcher(Files.readString(DOCUMENT));
+        Matcher m = Pattern.compile("public (int|long) (\\w+)\\(([^)]*)\\);").matcher(Due.document());
         while (m.find()) {
             List<String> types = new ArrayList<>();
             for (String parameter : m.group(3).split(",")) {
@@ -54,7 +54,7 @@ public final class RulesTest {
         return face;
     }
 
-    private static void face() throws IOException {
+    private static void face() {
         Set<String> open = new TreeSet<>();
         for (Method m : ThreeMasters.class.getDeclaredMethods()) {
             if (!Modifier.isPrivate(m.getModifiers())) {
@@ -77,6 +77,28 @@ public final class RulesTest {
         Due.holds("constants", constants.equals(Set.of("NONE", "BAD", "NOT", "FULL")));
         Due.is("constructors", ThreeMasters.class.getDeclaredConstructors().length, 1);
         Due.holds("final", Modifier.isFinal(ThreeMasters.class.getModifiers()));
+    }
+
+    private static void headings(String source) {
+        Due.says("Ahead of the calls `measure`, `type`, `wipe`, `fault`, `floor`, `cut`, `shim`, `set` the interface says: ---- "
+            + "measures, plans.");
+        Due.says("Ahead of the calls `sill`, `worst`, `stairs`, `even`, `blame` the interface says: ---- how far off.");
+        Due.says("Ahead of the calls `found`, `read`, `fits`, `worlds`, `odds` the interface says: ---- found.");
+        Due.says("Ahead of the calls `lean`, `runs`, `lifts`, `longest`, `mended`, `next` the interface says: ---- shafts, mending.");
+        Due.says("Ahead of the calls `weigh`, `bears`, `safe`, `more`, `stones` the interface says: ---- loads, stones.");
+        Due.says("Ahead of the calls `sheet`, `lose`, `put`, `get`, `copy`, `write`, `count`, `digest` the interface says: ---- sheets.");
+        List<String> wanted = new ArrayList<>();
+        Matcher group = Pattern.compile("Ahead of the calls (.*?) the interface says: (---- [^.]*)\\.").matcher(Due.document());
+        while (group.find()) {
+            wanted.add(group.group(2));
+            wanted.addAll(Arrays.asList(group.group(1).replace("`", "").split(", ")));
+        }
+        List<String> written = new ArrayList<>();
+        Matcher line = Pattern.compile("(?m)^    (?:// (----.*)|public (?:int|long) (\\w+)\\(.*)$").matcher(source);
+        while (line.find()) {
+            written.add(line.group(1) == null ? line.group(2) : line.group(1));
+        }
+        Due.holds("the calls stand under their headings: " + written, written.equals(wanted));
     }
 
     private static void namesOfMethods() {
@@ -121,7 +143,7 @@ public final class RulesTest {
 
     private static void library(String code) {
         Set<String> allowed = Set.of("Arrays.fill", "Math.abs", "Math.max", "Math.min", "Math.floorDiv",
-            "System.arraycopy", "Integer.MIN_VALUE", "Long.MIN_VALUE", "Integer.MAX_VALUE");
+            "System.arraycopy");
         Matcher m = Pattern.compile("\\b(Arrays|Math|System|Integer|Long|String|StringBuilder|List|ArrayList)\\.(\\w+)").matcher(code);
         while (m.find()) {
             boolean imported = m.start() > 0 && code.charAt(m.start() - 1) == '.';

@@ -13,6 +13,16 @@ public final class SheetsTest {
         copyWithinOne();
         write();
         count();
+        digests();
+        Due.end();
+    }
+
+    private static void digests() {
+        Due.says("h is 17; h becomes 31 h and each of (of each thing all that is told of it, then of the next one): count() 0 to 7; "
+            + "fault(); of FLOORS floor() 0 to 5, sill() 0, 2, fits(), even(15, 20, 0 to 2), odds() of MEASURE 0, above, below, "
+            + "bears() by MASTERS 0 to 2; of the top sill() 0, 2; worst(), of MASTERS blame() 0, 1, above and below each, safe(); "
+            + "worlds(), lifts(), longest(150, 0 and 1), mended(1023, NONE), next(100, 0 and 1), more(), stones() 0, 1 (all as they "
+            + "are told); as longs that wrap.");
         digest(new ThreeMasters());
         digest(Due.plan("9f+6=0;3e=4;x"));
         ThreeMasters x = Due.plan("9f+6=0;3e=4;12s+7=8;8f=5;2e+5=6");
@@ -26,7 +36,8 @@ public final class SheetsTest {
         x.found(0, 1);
         digest(x);
         digestAtTheEdges();
-        Due.end();
+        digestOfTen();
+        digestOfRefusals();
     }
 
     private static void sheet() {
@@ -271,6 +282,33 @@ public final class SheetsTest {
         for (int k = 0; k < 3; k++) {
             x.measure(k, 0, 99 + k);
         }
+        digest(x);
+    }
+
+    private static void digestOfTen() {
+        ThreeMasters x = Due.plan("9f+6=0;3e=4;12s+7=8;8f=5;2e+5=6;9f=1;8f=3;7s=2;6e=7;5f=8");
+        x.shim(9, -77);
+        x.lean(10, 99);
+        x.weigh(9, 99);
+        x.found(9, 54);
+        digest(x);
+    }
+
+    /** No BLAME, no WORLDS, nothing to be mended, no lift, not SAFE: refusals and NONE are mixed in as they are told. */
+    private static void digestOfRefusals() {
+        ThreeMasters x = Due.plan("9f=0;8f=0;1f=0");
+        x.found(1, 1);
+        x.shim(0, 99);
+        x.shim(1, 99);
+        x.lean(2, 99);
+        x.set(1, 90);
+        x.weigh(2, 99);
+        Due.is("blame() is refused", x.blame(0, 1, 0), Due.refusal(ThreeMasters.NOT));
+        Due.is("odds() is refused", x.odds(0, 0, 0), Due.refusal(ThreeMasters.NOT));
+        digest(x);
+        x.measure(1, 0, 999);
+        Due.typed(x, ";1f=4");
+        Due.is("mended() is NONE", x.mended(1023, -1), ThreeMasters.NONE);
         digest(x);
     }
 
