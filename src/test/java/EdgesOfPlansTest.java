@@ -214,6 +214,15 @@ public final class EdgesOfPlansTest {
         }
         faultOf(whole + "xx", 13);
         faultOf("x" + whole + "x", 0);
+        // The end of a text that can take no byte more, and one where a longer text was wiped.
+        faultOf(EIGHTY.substring(0, 72) + "99f+1=0;", 80);
+        faultOf(EIGHTY.substring(0, 72) + "99f+11+=", 78);
+        ThreeMasters again = Due.plan("99f+11=8");
+        again.wipe();
+        for (int n = 1; n < 8; n++) {
+            again.type("99f+11=8".charAt(n - 1));
+            Due.is("fault() where more was wiped", again.fault(), n);
+        }
     }
 
     private static void numberThatMayNotBe() {

@@ -113,17 +113,18 @@ public final class FoundTest {
 
     /** All ways of three floors, one by one, by what fits() says. */
     private static void worldsOneByOne() {
-        ThreeMasters x = Due.plan(THREE);
         for (int found = 20; found < 110; found += 3) {
+            ThreeMasters x = Due.plan(THREE);
             x.found(0, found);
             x.found(1, 115 - found / 4);
             x.found(2, 15 + found / 5);
             x.set(0, found / 10);
+            int[] fits = {x.fits(0), x.fits(1), x.fits(2)};
             long all = 0;
             long ells = 0;
             for (int w = 0; w < 729; w++) {
                 int a = w / 81, b = w / 9 % 9, c = w % 9;
-                boolean fit = (x.fits(0) >> a & 1) == 1 && (x.fits(1) >> b & 1) == 1 && (x.fits(2) >> c & 1) == 1;
+                boolean fit = (fits[0] >> a & fits[1] >> b & fits[2] >> c & 1) == 1;
                 if (fit && (a / 3 != b / 3 || a == b) && (b / 3 != c / 3 || b == c)) {
                     all++;
                     ells += b / 3 == 1 ? 1 : 0;

@@ -1,11 +1,18 @@
+import java.util.ArrayList;
+import java.util.List;
 import java.util.Random;
+import java.util.function.ToIntFunction;
 
-/** ThreeMasters held against the Model, over towers drawn by fixed seeds. */
+/**
+ * ThreeMasters held against the Model, over towers drawn by fixed seeds. What is asked of a tower is asked of several
+ * objects that came to be alike, as one is good for 512 calls alone.
+ */
 public final class ModelTest {
     private static final int RUNS = 400;
 
     private final Random random;
-    private final ThreeMasters x = new ThreeMasters();
+    private final List<ToIntFunction<ThreeMasters>> changes = new ArrayList<>();
+    private ThreeMasters x = new ThreeMasters();
     private final Model model = new Model();
     private final String run;
 
@@ -28,6 +35,19 @@ public final class ModelTest {
         Due.end();
     }
 
+    private void change(String call, ToIntFunction<ThreeMasters> change, int due) {
+        Due.is(run + call, change.applyAsInt(x), due);
+        changes.add(change);
+    }
+
+    /** An object to which the same was done, with its calls before it. */
+    private void anew() {
+        x = new ThreeMasters();
+        for (ToIntFunction<ThreeMasters> change : changes) {
+            change.applyAsInt(x);
+        }
+    }
+
     private int among(int least, int most) {
         return least + random.nextInt(most - least + 1);
     }
@@ -35,7 +55,7 @@ public final class ModelTest {
     private void type(String text) {
         for (char c : text.toCharArray()) {
             model.text.append(c);
-            Due.is(run + "type()", x.type(c), model.text.length());
+            change("type()", y -> y.type(c), model.text.length());
         }
     }
 
@@ -50,8 +70,7 @@ public final class ModelTest {
             if (among(0, 1) == 0) {
                 setSize(k, among(1, among(0, 9) == 0 ? 999 : 60));
             }
-            model.grid[k] = among(1, among(1, 9));
-            x.measure(k, 1, model.grid[k]);
+            setGrid(k, among(1, among(1, 9)));
         }
         int n = among(0, most);
         for (int f = 0; f < n; f++) {
@@ -61,39 +80,50 @@ public final class ModelTest {
     }
 
     private void setSize(int k, int v) {
-        Due.is(run + "measure()", x.measure(k, 0, v), model.size[k]);
+        change("measure()", y -> y.measure(k, 0, v), model.size[k]);
         model.size[k] = v;
+    }
+
+    private void setGrid(int k, int v) {
+        change("measure()", y -> y.measure(k, 1, v), model.grid[k]);
+        model.grid[k] = v;
+    }
+
+    private void set(int what, int v) {
+        change("set()", y -> y.set(what, v), model.setting[what]);
+        model.setting[what] = v;
+    }
+
+    private void lean(int sill, int v) {
+        change("lean()", y -> y.lean(sill, v), model.lean[sill]);
+        model.lean[sill] = v;
     }
 
     private void change() {
         int[] most = {99, 999, 9, 9};
         for (int what = 0; what < 4; what++) {
-            int v = among(what == 1 ? 1 : 0, among(0, 2) == 0 ? what == 1 ? 300 : 1 : most[what]);
-            Due.is(run + "set()", x.set(what, v), model.setting[what]);
-            model.setting[what] = v;
+            set(what, among(what == 1 ? 1 : 0, among(0, 2) == 0 ? what == 1 ? 300 : 1 : most[what]));
         }
         for (int f = 0; f < 10; f++) {
             changeFloor(f);
         }
         for (int sill = 0; sill <= 10; sill++) {
-            int v = among(-99, 99) / among(1, 9);
-            Due.is(run + "lean()", x.lean(sill, v), model.lean[sill]);
-            model.lean[sill] = v;
+            lean(sill, among(-99, 99) / among(1, 9));
         }
         setSize(among(0, 2), among(1, 40));
     }
 
     private void changeFloor(int f) {
         int shim = among(0, 2) == 0 ? among(-99, 99) : 0;
-        Due.is(run + "shim()", x.shim(f, shim), model.shim[f]);
+        change("shim()", y -> y.shim(f, shim), model.shim[f]);
         model.shim[f] = shim;
         int weight = among(0, 99) / among(1, 30);
-        Due.is(run + "weigh()", x.weigh(f, weight), model.weight[f]);
+        change("weigh()", y -> y.weigh(f, weight), model.weight[f]);
         model.weight[f] = weight;
         if (f < model.top() && among(0, 1) == 0) {
             int near = model.cut(model.meant(f), among(0, 8)) + among(-2, 2);
             int found = Math.max(1, near);
-            Due.is(run + "found()", x.found(f, found), model.found[f]);
+            change("found()", y -> y.found(f, found), model.found[f]);
             model.found[f] = found;
         }
     }
@@ -104,8 +134,10 @@ public final class ModelTest {
         Due.is(run + "count(0)", x.count(0), top);
         Due.is(run + "count(2)", x.count(2), model.sill(top, 1));
         for (int f = -1; f <= top + 1; f++) {
+            anew();
             askFloor(f);
         }
+        anew();
         Due.is(run + "worst()", x.worst(), model.worst());
         askWorlds(top);
         askShaft(top);
@@ -118,6 +150,7 @@ public final class ModelTest {
             }
         }
         Due.is(run + "more()", x.more(), model.more());
+        anew();
     }
 
     private void askFloor(int f) {
