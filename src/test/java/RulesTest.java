@@ -8,7 +8,9 @@ import java.util.ArrayList;
 import java.util.Arrays;
 import java.util.HashSet;
 import java.util.List;
+import java.util.Map;
 import java.util.Set;
+import java.util.TreeMap;
 import java.util.TreeSet;
 import java.util.regex.Matcher;
 import java.util.regex.Pattern;
@@ -26,7 +28,7 @@ public final class RulesTest {
         nestedClasses();
         words(code);
         library(code);
-        lengths(code);
+        methods(code);
         Due.holds("the source is plain ASCII", source.chars().allMatch(c -> c < 128));
         Due.end();
     }
@@ -155,11 +157,12 @@ public final class RulesTest {
         }
     }
 
-    /** A method begins with a line that ends in "{" and has a bracket, at one depth of 4 or 8 signs. */
-    private static void lengths(String code) {
+    /** Method by method; a method begins with a line that ends in "{" and has a bracket, at a depth of 4 or 8 signs. */
+    private static void methods(String code) {
+        Map<String, String> bodies = new TreeMap<>();
         String[] lines = code.split("\n");
         for (int i = 0; i < lines.length; i++) {
-            Matcher m = Pattern.compile("^( {4}| {8})(?! )[\\w\\[\\] ]+\\(.*\\) \\{$").matcher(lines[i]);
+            Matcher m = Pattern.compile("^( {4}| {8})(?! )[\\w\\[\\] ]*?(\\w+)\\(.*\\) \\{$").matcher(lines[i]);
             if (!m.find()) {
                 continue;
             }
@@ -168,6 +171,26 @@ public final class RulesTest {
                 end++;
             }
             Due.holds(lines[i].trim() + " has sixty lines at most", end - i <= 60);
+            String body = String.join("\n", Arrays.asList(lines).subList(i + 1, Math.min(end, lines.length)));
+            bodies.merge(m.group(2), body, (one, other) -> one + "\n" + other);
         }
+        for (String name : bodies.keySet()) {
+            boolean constructor = Character.isUpperCase(name.charAt(0));
+            Due.holds(name + " makes no object", constructor || !bodies.get(name).matches("(?s).*\\b(new|clone|copyOf|copyOfRange)\\b.*"));
+            int deep = depth(name, bodies, 1);
+            Due.holds(name + " goes eight calls deep at most, without recursion: " + deep, deep <= 8);
+        }
+    }
+
+    /** How many calls stand open at once at most, this one among them; a recursion is given up at twenty. */
+    private static int depth(String name, Map<String, String> bodies, int open) {
+        int deepest = open;
+        Matcher call = Pattern.compile("\\b(\\w+)\\(").matcher(bodies.get(name));
+        while (call.find() && open < 20) {
+            if (bodies.containsKey(call.group(1))) {
+                deepest = Math.max(deepest, depth(call.group(1), bodies, open + 1));
+            }
+        }
+        return deepest;
     }
 }
